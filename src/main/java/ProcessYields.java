@@ -301,24 +301,26 @@ public final class ProcessYields {
             this.most = Math.min(most, MOST_NEEDS);
         }
 
-        boolean takes(int product, int good) {
-            if (product == good || sizes[product] >= most) {
+        /** False, and nothing is added, if it can't be a part of the product. */
+        boolean add(int product, int good, int up, int down) {
+            if (product == good || sizes[product] >= most || isTold(product, good)) {
                 return false;
             }
-            for (int k = 0; k < sizes[product]; k++) {
-                if (goodAt(product, k) == good) {
-                    return false;
-                }
-            }
-            return true;
-        }
-
-        void add(int product, int good, int up, int down) {
             int place = place(product, sizes[product]);
             goods[place] = good;
             ups[place] = up;
             downs[place] = down;
             sizes[product]++;
+            return true;
+        }
+
+        boolean isTold(int product, int good) {
+            for (int k = 0; k < sizes[product]; k++) {
+                if (goodAt(product, k) == good) {
+                    return true;
+                }
+            }
+            return false;
         }
 
         void dropLast(int product) {
@@ -355,10 +357,9 @@ public final class ProcessYields {
         int size;
 
         boolean addNeed(int product, int good, int up, int down) {
-            if (!has[product] || !inputs.takes(product, good)) {
+            if (!has[product] || !inputs.add(product, good, up, down)) {
                 return false;
             }
-            inputs.add(product, good, up, down);
             if (measureDepths() > MOST_DEPTH) {
                 inputs.dropLast(product);
                 measureDepths();
@@ -368,11 +369,7 @@ public final class ProcessYields {
         }
 
         boolean addByProduct(int product, int good, int up, int down) {
-            if (!has[product] || !outputs.takes(product, good)) {
-                return false;
-            }
-            outputs.add(product, good, up, down);
-            return true;
+            return has[product] && outputs.add(product, good, up, down);
         }
 
         /**

@@ -29,10 +29,8 @@ public final class ModelTest {
     }
 
     private void run(int seed) {
-        int set = 0;
-        if (style != 0) {
-            set = 60;
-        }
+        // Most runs begin with recipes, so that the later calls find something to make.
+        int set = style == 0 ? 0 : 60;
         for (int i = 0; i < CALLS; i++) {
             step(seed, i, i < set);
         }
@@ -137,24 +135,12 @@ public final class ModelTest {
                 due = () -> model.sum(what) * 1000003 + model.count(what);
                 break;
         }
-        Check.holds("run " + seed + ", call " + i + ": " + name + ": " + answer(mine) + ", due is " + modelled(due), same);
+        String got = said(mine);
+        String want = said(due);
+        Check.holds("run " + seed + ", call " + i + ": " + name + " is " + want + ", not " + got, got.equals(want));
         if (i % 64 == 63) {
             Check.holds("run " + seed + ": the state after call " + i, Check.state(x).equals(model.state()));
         }
-    }
-
-    private String got;
-    private boolean same;
-
-    private String answer(Check.Call call) {
-        got = said(call);
-        return got;
-    }
-
-    private String modelled(Check.Call call) {
-        String want = said(call);
-        same = want.equals(got);
-        return want;
     }
 
     private static String said(Check.Call call) {

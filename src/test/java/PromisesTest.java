@@ -22,6 +22,7 @@ public final class PromisesTest {
         madeByValue();
         madeNeedsRoom();
         madeOfOwnByProduct();
+        madeWithoutRefusedNeeds();
         export();
         release();
         releaseInterest();
@@ -162,6 +163,27 @@ public final class PromisesTest {
         Check.due("look(10, 5)", x.look(10, 5), 3);
         Check.due("by-products have no depth", x.yields(11, 9, 1, 1), 1);
         Check.due("look(11, 5)", x.look(11, 5), 0);
+        // Told from either end, with the numbers going up and going down.
+        int[][] chains = {{0, 1, 2, 3, 4}, {4, 3, 2, 1, 0}, {6, 2, 9, 0, 11}};
+        for (int[] goods : chains) {
+            checkDepths(goods, new int[] {0, 1, 2, 3});
+            checkDepths(goods, new int[] {3, 2, 1, 0});
+            checkDepths(goods, new int[] {0, 3, 1, 2});
+        }
+    }
+
+    /** Four needs that would make a way of four steps, in an order: the last one can't be. */
+    private static void checkDepths(int[] goods, int[] order) {
+        ProcessYields x = new ProcessYields();
+        for (int good : goods) {
+            x.recipe(good);
+        }
+        for (int k = 0; k < 3; k++) {
+            Check.due("a way of three steps", x.needs(goods[order[k]], goods[order[k] + 1], 1, 1), 1);
+        }
+        int last = order[3];
+        Check.unchanged("a way of four steps", x, 0, () -> x.needs(goods[last], goods[last + 1], 1, 1));
+        Check.unchanged("a ring", x, 0, () -> x.needs(goods[order[0] + 1], goods[order[0]], 1, 1));
     }
 
     // Promise 5
@@ -236,6 +258,14 @@ public final class PromisesTest {
         Check.due("in(4, 60, 7)", x.in(4, 60, 7), 3);
         Check.due("lot(3, 1): behind us", x.lot(3, 1), 60);
         Check.due("sum(0)", x.sum(0), 164);
+        x.prior(5, 2, 6);
+        x.prior(5, 2, 6);
+        Check.due("in(5, 3, 9): the last one of the lot, too", x.in(5, 3, 9), 4);
+        Check.due("lot(4, 1)", x.lot(4, 1), 0);
+        Check.due("look(5, 7)", x.look(5, 7), 1);
+        Check.due("in(5, 1, 9): the last one of the export", x.in(5, 1, 9), 5);
+        Check.due("look(5, 7)", x.look(5, 7), 0);
+        Check.due("sum(1)", x.sum(1), 110);
     }
 
     private static void inIsFull() {
@@ -424,6 +454,22 @@ public final class PromisesTest {
         Check.due("look(1, 2)", x.look(1, 2), 1);
     }
 
+    private static void madeWithoutRefusedNeeds() {
+        ProcessYields x = new ProcessYields();
+        x.recipe(0);
+        x.recipe(1);
+        x.needs(0, 1, 1, 1);
+        x.needs(1, 2, 1, 1);
+        Check.due("a ring", x.needs(1, 0, 1, 1), 0);
+        x.in(2, 5, 50);
+        Check.due("made(1, 5): good 0 is no need of it", x.made(1, 5, false), 1);
+        x.in(0, 5, 50);
+        x.in(2, 5, 50);
+        Check.due("made(1, 5)", x.made(1, 5, false), 1);
+        Check.due("look(0, 0)", x.look(0, 0), 5);
+        Check.due("look(1, 1)", x.look(1, 1), 100);
+    }
+
     // Promise 8
     private static void export() {
         ProcessYields x = new ProcessYields();
@@ -588,6 +634,10 @@ public final class PromisesTest {
         checkChain(x, 0, 9, 0, 1);
         checkChain(x, 9, 9, 1, 1);
         checkChain(x, 8, 7, 0, 1);
+        x.recipe(0);
+        x.needs(0, 11, 10, 12);
+        checkChain(x, 0, 11, 5, 6);
+        checkChain(x, 9, 11, 5, 3);
         for (int good : NO_GOODS) {
             Check.illegalArgument("chain(" + good + ", 0, 0)", x, () -> x.chain(good, 0, 0));
             Check.illegalArgument("chain(9, " + good + ", 0)", x, () -> x.chain(9, good, 0));
@@ -651,6 +701,12 @@ public final class PromisesTest {
         }
         x.day(3);
         Check.due("look(2, 7)", x.look(2, 7), 8);
+        x.export(2, 5);
+        x.in(3, 8, 500);
+        x.in(3, 9, 5);
+        Check.due("look(2, 2): one of a lot is left", x.look(2, 2), 1);
+        Check.due("look(3, 2)", x.look(3, 2), 3);
+        Check.due("look(3, 1)", x.look(3, 1), 1068);
         Check.due("look(3, 3) without a recipe", x.look(3, 3), -1);
         Check.due("look(3, 4) without a recipe", x.look(3, 4), -1);
         for (int good : NO_GOODS) {
@@ -666,6 +722,8 @@ public final class PromisesTest {
         ProcessYields x = new ProcessYields();
         x.day(3);
         x.in(7, 5, 11);
+        Check.due("look(7, 1) of lot 0", x.look(7, 1), 11);
+        Check.due("look(7, 2) of lot 0", x.look(7, 2), 1);
         x.day(4);
         x.export(7, 2);
         long[] want = {7, 3, 7, 3};
