@@ -1,7 +1,6 @@
-import java.util.ArrayList;
 import java.util.List;
 
-/** What the tests share: due answers, due exceptions, and an object's whole visible state. */
+/** What the tests share: due answers, due exceptions, and what may not change. */
 final class Check {
     interface Call {
         long answer();
@@ -48,54 +47,29 @@ final class Check {
         }
     }
 
-    static void illegalArgument(String call, ProcessYields x, Call made) {
+    static void illegalArgument(String call, Watched x, Call made) {
         refused(call, IllegalArgumentException.class, x, made);
     }
 
-    static void illegalState(String call, ProcessYields x, Call made) {
+    static void illegalState(String call, Watched x, Call made) {
         refused(call, IllegalStateException.class, x, made);
     }
 
-    static void outOfBounds(String call, ProcessYields x, Call made) {
+    static void outOfBounds(String call, Watched x, Call made) {
         refused(call, IndexOutOfBoundsException.class, x, made);
     }
 
-    private static void refused(String call, Class<? extends RuntimeException> want, ProcessYields x, Call made) {
-        List<Long> before = state(x);
+    private static void refused(String call, Class<? extends RuntimeException> want, Watched x, Call made) {
+        List<Long> before = x.state();
         dueThrow(call, want, made);
-        holds(call + " changes nothing", before.equals(state(x)));
+        holds(call + " changes nothing", before.equals(x.state()));
     }
 
     /** An answer by which nothing may have changed. */
-    static void unchanged(String call, ProcessYields x, long want, Call made) {
-        List<Long> before = state(x);
+    static void unchanged(String call, Watched x, long want, Call made) {
+        List<Long> before = x.state();
         due(call, made.answer(), want);
-        holds(call + " changes nothing", before.equals(state(x)));
-    }
-
-    static List<Long> state(ProcessYields x) {
-        List<Long> all = new ArrayList<>();
-        for (int what = 0; what <= 3; what++) {
-            all.add((long) x.count(what));
-        }
-        for (int what = 0; what <= 4; what++) {
-            all.add(x.sum(what));
-        }
-        for (int good = 0; good < 12; good++) {
-            for (int what = 0; what <= 7; what++) {
-                all.add(x.look(good, what));
-            }
-            for (int other = 0; other < 12; other++) {
-                all.add(x.chain(good, other, 0));
-                all.add(x.chain(good, other, 1));
-            }
-        }
-        for (int i = 0; i < x.count(0); i++) {
-            for (int what = 0; what <= 3; what++) {
-                all.add(x.lot(i, what));
-            }
-        }
-        return all;
+        holds(call + " changes nothing", before.equals(x.state()));
     }
 
     static void end(String test) {

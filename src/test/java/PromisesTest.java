@@ -41,7 +41,7 @@ public final class PromisesTest {
 
     // Promise 1
     private static void newObject() {
-        ProcessYields x = new ProcessYields();
+        Watched x = new Watched();
         Check.due("NONE", ProcessYields.NONE, -1);
         for (int what = 0; what <= 3; what++) {
             Check.due("new: count(" + what + ")", x.count(what), 0);
@@ -60,7 +60,7 @@ public final class PromisesTest {
 
     // Promise 2
     private static void value() {
-        ProcessYields x = new ProcessYields();
+        Watched x = new Watched();
         Check.due("value(0, 0)", x.value(0, 0), true);
         Check.due("value(11, 10000)", x.value(11, 10000), true);
         Check.due("value(5, 77)", x.value(5, 77), true);
@@ -80,7 +80,7 @@ public final class PromisesTest {
 
     // Promise 3
     private static void recipe() {
-        ProcessYields x = new ProcessYields();
+        Watched x = new Watched();
         for (int good = 0; good < 12; good++) {
             int product = good;
             Check.due("look before recipe", x.look(good, 3), -1);
@@ -97,7 +97,7 @@ public final class PromisesTest {
 
     // Promise 4
     private static void needs() {
-        ProcessYields x = new ProcessYields();
+        Watched x = new Watched();
         Check.unchanged("needs without a recipe", x, 0, () -> x.needs(5, 1, 1, 1));
         x.recipe(5);
         Check.unchanged("needs of the product itself", x, 0, () -> x.needs(5, 5, 1, 1));
@@ -125,7 +125,7 @@ public final class PromisesTest {
     }
 
     private static void needsRing() {
-        ProcessYields x = new ProcessYields();
+        Watched x = new Watched();
         x.recipe(1);
         x.recipe(2);
         x.recipe(3);
@@ -141,7 +141,7 @@ public final class PromisesTest {
     }
 
     private static void needsDepth() {
-        ProcessYields x = new ProcessYields();
+        Watched x = new Watched();
         for (int good = 0; good < 12; good++) {
             x.recipe(good);
         }
@@ -174,7 +174,7 @@ public final class PromisesTest {
 
     /** Four needs that would make a way of four steps, in an order: the last one can't be. */
     private static void checkDepths(int[] goods, int[] order) {
-        ProcessYields x = new ProcessYields();
+        Watched x = new Watched();
         for (int good : goods) {
             x.recipe(good);
         }
@@ -188,7 +188,7 @@ public final class PromisesTest {
 
     // Promise 5
     private static void yields() {
-        ProcessYields x = new ProcessYields();
+        Watched x = new Watched();
         Check.unchanged("yields without a recipe", x, 0, () -> x.yields(5, 1, 1, 1));
         x.recipe(5);
         Check.due("needs(5, 0)", x.needs(5, 0, 1, 1), 1);
@@ -211,7 +211,7 @@ public final class PromisesTest {
 
     // Promise 6
     private static void in() {
-        ProcessYields x = new ProcessYields();
+        Watched x = new Watched();
         x.day(9);
         Check.due("in(0, 1, 0)", x.in(0, 1, 0), 0);
         Check.due("in(11, 10000, 1000000)", x.in(11, 10000, 1000000), 1);
@@ -233,7 +233,7 @@ public final class PromisesTest {
     }
 
     private static void inMeetsPriors() {
-        ProcessYields x = new ProcessYields();
+        Watched x = new Watched();
         x.prior(3, 2, 5);
         x.prior(4, 100, 5);
         x.prior(3, 3, 4);
@@ -269,7 +269,7 @@ public final class PromisesTest {
     }
 
     private static void inIsFull() {
-        ProcessYields x = new ProcessYields();
+        Watched x = new Watched();
         for (int i = 0; i < 200; i++) {
             Check.due("in", x.in(i % 12, 1, i), i);
         }
@@ -284,7 +284,7 @@ public final class PromisesTest {
 
     // Promise 7
     private static void made() {
-        ProcessYields x = new ProcessYields();
+        Watched x = new Watched();
         Check.illegalArgument("made without a recipe", x, () -> x.made(1, 1, false));
         x.recipe(1);
         x.yields(1, 2, 1, 1);
@@ -318,7 +318,7 @@ public final class PromisesTest {
     }
 
     private static void madeRounds() {
-        ProcessYields x = new ProcessYields();
+        Watched x = new Watched();
         x.recipe(3);
         x.needs(3, 0, 5, 7);
         x.needs(3, 1, 7, 5);
@@ -342,7 +342,7 @@ public final class PromisesTest {
     }
 
     private static void madeTakesSeveralLots() {
-        ProcessYields x = new ProcessYields();
+        Watched x = new Watched();
         x.recipe(2);
         x.needs(2, 7, 1, 1);
         x.in(7, 3, 10);
@@ -373,7 +373,7 @@ public final class PromisesTest {
     }
 
     private static void checkShares(int n, int up1, int down1, int up2, int down2, int debt, long[] want) {
-        ProcessYields x = new ProcessYields();
+        Watched x = new Watched();
         x.recipe(0);
         x.needs(0, 1, 1, 1);
         x.yields(0, 3, up1, down1);
@@ -388,7 +388,7 @@ public final class PromisesTest {
     }
 
     private static void madeByValue() {
-        ProcessYields x = new ProcessYields();
+        Watched x = new Watched();
         x.recipe(0);
         x.needs(0, 1, 1, 1);
         x.yields(0, 2, 12, 1);
@@ -408,7 +408,7 @@ public final class PromisesTest {
         Check.due("lot(153, 2)", x.lot(153, 2), 71996256L);
         Check.due("sum(4)", x.sum(4), 150000000L);
 
-        ProcessYields y = new ProcessYields();
+        Watched y = new Watched();
         y.recipe(0);
         y.needs(0, 1, 1, 1);
         y.yields(0, 2, 1, 1);
@@ -424,7 +424,7 @@ public final class PromisesTest {
     }
 
     private static void madeNeedsRoom() {
-        ProcessYields x = new ProcessYields();
+        Watched x = new Watched();
         x.recipe(0);
         x.needs(0, 1, 1, 1);
         x.yields(0, 2, 1, 2);
@@ -442,7 +442,7 @@ public final class PromisesTest {
     }
 
     private static void madeOfOwnByProduct() {
-        ProcessYields x = new ProcessYields();
+        Watched x = new Watched();
         x.recipe(0);
         x.needs(0, 1, 2, 1);
         x.yields(0, 1, 1, 1);
@@ -455,7 +455,7 @@ public final class PromisesTest {
     }
 
     private static void madeWithoutRefusedNeeds() {
-        ProcessYields x = new ProcessYields();
+        Watched x = new Watched();
         x.recipe(0);
         x.recipe(1);
         x.needs(0, 1, 1, 1);
@@ -472,7 +472,7 @@ public final class PromisesTest {
 
     // Promise 8
     private static void export() {
-        ProcessYields x = new ProcessYields();
+        Watched x = new Watched();
         Check.unchanged("export without stock", x, -1, () -> x.export(4, 1));
         x.in(4, 3, 10);
         x.in(5, 3, 100);
@@ -502,7 +502,7 @@ public final class PromisesTest {
 
     // Promise 9
     private static void release() {
-        ProcessYields x = new ProcessYields();
+        Watched x = new Watched();
         Check.unchanged("release without stock", x, -1, () -> x.release(4, 1));
         x.in(4, 3, 1000);
         Check.unchanged("release of too much", x, -1, () -> x.release(4, 4));
@@ -526,14 +526,14 @@ public final class PromisesTest {
         int[] days = {0, 1, 29, 30, 31, 60, 61, 100000};
         long[] months = {0, 1, 1, 1, 2, 2, 3, 3334};
         for (int i = 0; i < days.length; i++) {
-            ProcessYields x = new ProcessYields();
+            Watched x = new Watched();
             x.in(0, 10, 10000);
             x.day(days[i]);
             Check.due("release after " + days[i], x.release(0, 10), 10000 + 100 * months[i]);
             Check.due("sum(2) after " + days[i], x.sum(2), 10000);
             Check.due("sum(3) after " + days[i], x.sum(3), 100 * months[i]);
         }
-        ProcessYields x = new ProcessYields();
+        Watched x = new Watched();
         x.in(0, 10, 150);
         x.day(20);
         x.in(0, 10, 150);
@@ -544,7 +544,7 @@ public final class PromisesTest {
         Check.due("release(0, 30)", x.release(0, 30), 390 + 3 + 1);
         Check.due("sum(3)", x.sum(3), 4);
         // What is made has the day on which it was made.
-        ProcessYields y = new ProcessYields();
+        Watched y = new Watched();
         y.recipe(1);
         y.needs(1, 0, 1, 1);
         y.in(0, 1, 100000);
@@ -556,7 +556,7 @@ public final class PromisesTest {
 
     // Promise 10
     private static void prior() {
-        ProcessYields x = new ProcessYields();
+        Watched x = new Watched();
         x.day(7);
         Check.due("prior(0, 1, 0)", x.prior(0, 1, 0), 1);
         Check.due("prior(11, 10000, 100000)", x.prior(11, 10000, 100000), 2);
@@ -593,7 +593,7 @@ public final class PromisesTest {
 
     // Promise 11
     private static void day() {
-        ProcessYields x = new ProcessYields();
+        Watched x = new Watched();
         Check.due("day(0)", x.day(0), true);
         Check.unchanged("day(-1)", x, 0, () -> x.day(-1) ? 1 : 0);
         Check.due("day(5)", x.day(5), true);
@@ -609,7 +609,7 @@ public final class PromisesTest {
 
     // Promise 12
     private static void chain() {
-        ProcessYields x = new ProcessYields();
+        Watched x = new Watched();
         checkChain(x, 0, 0, 1, 1);
         checkChain(x, 0, 1, 0, 1);
         x.recipe(9);
@@ -647,14 +647,14 @@ public final class PromisesTest {
         }
     }
 
-    private static void checkChain(ProcessYields x, int product, int good, long above, long below) {
+    private static void checkChain(Watched x, int product, int good, long above, long below) {
         Check.due("chain(" + product + ", " + good + ", 0)", x.chain(product, good, 0), above);
         Check.due("chain(" + product + ", " + good + ", 1)", x.chain(product, good, 1), below);
     }
 
     /** Four ways at each of three depths, by rates that share little: long sums, exact all the same. */
     private static void chainGreat() {
-        ProcessYields x = new ProcessYields();
+        Watched x = new Watched();
         int[] downs = {7, 8, 9, 11};
         for (int good = 3; good < 12; good++) {
             x.recipe(good);
@@ -682,7 +682,7 @@ public final class PromisesTest {
 
     // Promise 13
     private static void look() {
-        ProcessYields x = new ProcessYields();
+        Watched x = new Watched();
         x.recipe(2);
         x.needs(2, 3, 1, 1);
         x.needs(2, 4, 1, 1);
@@ -719,7 +719,7 @@ public final class PromisesTest {
 
     // Promise 14
     private static void lot() {
-        ProcessYields x = new ProcessYields();
+        Watched x = new Watched();
         x.day(3);
         x.in(7, 5, 11);
         Check.due("look(7, 1) of lot 0", x.look(7, 1), 11);
@@ -740,7 +740,7 @@ public final class PromisesTest {
 
     // Promise 15
     private static void sum() {
-        ProcessYields x = new ProcessYields();
+        Watched x = new Watched();
         x.prior(0, 1, 0);
         x.in(0, 10, 1000);
         x.in(1, 10, 500);
@@ -758,7 +758,7 @@ public final class PromisesTest {
 
     // Promise 16
     private static void quotient() {
-        ProcessYields x = new ProcessYields();
+        Watched x = new Watched();
         Check.due("quotient(0, 1)", x.quotient(0, 1), 0);
         Check.due("quotient(9, 10)", x.quotient(9, 10), 0);
         Check.due("quotient(19, 10)", x.quotient(19, 10), 1);
@@ -777,7 +777,7 @@ public final class PromisesTest {
 
     // Promise 17
     private static void count() {
-        ProcessYields x = new ProcessYields();
+        Watched x = new Watched();
         x.recipe(1);
         x.recipe(2);
         x.prior(0, 5, 0);
@@ -795,14 +795,14 @@ public final class PromisesTest {
     }
 
     private static void objectsAreApart() {
-        ProcessYields x = new ProcessYields();
-        ProcessYields y = new ProcessYields();
+        Watched x = new Watched();
+        Watched y = new Watched();
         x.recipe(1);
         x.needs(1, 0, 1, 2);
         x.in(0, 5, 5);
         x.prior(0, 5, 5);
         x.value(0, 5);
         x.day(5);
-        Check.holds("another object is still new", Check.state(y).equals(Check.state(new ProcessYields())));
+        Check.holds("another object is still new", y.state().equals(new Watched().state()));
     }
 }
