@@ -514,6 +514,11 @@ public final class CallsEdgesTest {
                 Check.due("look(" + good + ", " + whats[k] + ")", x.look(good, whats[k]), want[good][k]);
             }
         }
+        // The debts: see the parts that were taken of 801, 99 and 61, and the shares 242 and 2 of 220 + 24.
+        long[] debts = {70, 581, 2, 0, 37, 38, 0, 0};
+        for (int good = 0; good < debts.length; good++) {
+            Check.due("look(" + good + ", 1)", x.look(good, 1), debts[good]);
+        }
         Check.due("look(1, 2): the first lot is used up", x.look(1, 2), 1);
         Check.due("look(0, 2)", x.look(0, 2), 1);
         Check.due("look(7, 2)", x.look(7, 2), 0);
@@ -521,6 +526,11 @@ public final class CallsEdgesTest {
         Check.due("look(0, 2) behind the last one", x.look(0, 2), 0);
         Check.due("look(0, 1) behind the last one", x.look(0, 1), 0);
         Check.unchanged("look changes nothing", x, 2, () -> x.look(7, 7));
+        Watched first = new Watched();
+        first.in(9, 5, 50);
+        Check.due("the first lot's debt", first.look(9, 1), 50);
+        Check.due("the first lot's amount", first.look(9, 0), 5);
+        Check.due("the first lot", first.look(9, 2), 1);
         x.day(99);
         Check.due("the last day of a prior export", x.look(7, 7), 2);
         x.day(100);

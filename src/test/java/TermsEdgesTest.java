@@ -259,15 +259,26 @@ public final class TermsEdgesTest {
 
     // "no more than 3"
     private static void depthIsNoMoreThanThree() {
+        // From the bottom to the top: numbers that go up, that go down, and that go to and fro.
+        for (int[] way : new int[][] {{0, 1, 2, 3, 4}, {11, 10, 9, 8, 7}, {5, 0, 11, 3, 7}, {6, 9, 1, 8, 2}}) {
+            Watched x = withRecipes();
+            Check.due("depth 1", x.needs(way[1], way[0], 1, 1), 1);
+            Check.due("depth 2", x.needs(way[2], way[1], 1, 1), 1);
+            Check.due("depth 3", x.needs(way[3], way[2], 1, 1), 1);
+            for (int k = 0; k <= 4; k++) {
+                Check.due("the depth of good " + way[k], x.look(way[k], 5), k % 4);
+            }
+            Check.unchanged("depth 4", x, 0, () -> x.needs(way[4], way[3], 1, 1));
+            Check.due("depth 3 again", x.needs(way[4], way[2], 1, 1), 1);
+            Check.unchanged("depth 4 by a second need", x, 0, () -> x.needs(way[4], way[3], 1, 1));
+            Check.unchanged("depth 4 by a second need of the other", x, 0, () -> x.needs(way[3], way[4], 1, 1));
+        }
         Watched x = withRecipes();
-        Check.due("depth 1", x.needs(1, 0, 1, 1), 1);
-        Check.due("depth 2", x.needs(2, 1, 1, 1), 1);
-        Check.due("depth 3", x.needs(3, 2, 1, 1), 1);
-        Check.unchanged("depth 4", x, 0, () -> x.needs(4, 3, 1, 1));
-        Check.due("depth 3 again", x.needs(4, 2, 1, 1), 1);
-        Check.unchanged("depth 4 by a second need", x, 0, () -> x.needs(4, 3, 1, 1));
-        Check.due("a by-product of depth 3 is none", x.yields(5, 3, 1, 1), 1);
-        Check.due("look(5, 5)", x.look(5, 5), 0);
+        x.needs(1, 0, 1, 1);
+        x.needs(2, 1, 1, 1);
+        x.needs(3, 2, 1, 1);
+        Check.due("a by-product that is 3 deep", x.yields(5, 3, 1, 1), 1);
+        Check.due("makes nothing deep", x.look(5, 5), 0);
     }
 
     // "no more than 3", with promise 4's "(of any good)"
@@ -303,6 +314,11 @@ public final class TermsEdgesTest {
                 int top = (shift + length - 1) % 12;
                 Check.unchanged("a ring of " + length, x, 0, () -> x.needs(bottom, top, 1, 1));
                 Check.due("by-products close no ring", x.yields(bottom, top, 1, 1), 1);
+                Watched y = withRecipes();
+                for (int k = 1; k < length; k++) {
+                    Check.due("a way of " + k, y.needs((shift + k - 1) % 12, (shift + k) % 12, 1, 1), 1);
+                }
+                Check.unchanged("a ring of " + length, y, 0, () -> y.needs(top, bottom, 1, 1));
             }
         }
     }
@@ -582,14 +598,18 @@ public final class TermsEdgesTest {
     }
 
     private static void fortyPriorExportsByOneLot() {
-        Watched x = new Watched();
-        for (int i = 1; i <= 40; i++) {
-            x.prior(6, 1, 0);
+        for (int n = 39; n <= 41; n++) {
+            Watched x = new Watched();
+            for (int i = 1; i <= 40; i++) {
+                x.prior(6, 1, 0);
+            }
+            x.in(6, n, n);
+            Check.due("left of the exports, by a lot of " + n, x.look(6, 7), Math.max(0, 40 - n));
+            Check.due("left of the lot of " + n, x.lot(0, 1), Math.max(0, n - 40));
+            Check.due("discharged by a lot of " + n, x.sum(1), Math.min(n, 40));
+            x.in(6, 10000, 0);
+            Check.due("left of the next lot", x.lot(1, 1), 10000 - Math.max(0, 40 - n));
         }
-        x.in(6, 40, 79);
-        Check.due("look(6, 7)", x.look(6, 7), 0);
-        Check.due("sum(1)", x.sum(1), 79);
-        Check.due("lot(0, 1)", x.lot(0, 1), 0);
     }
 
     private static void making() {
@@ -600,6 +620,8 @@ public final class TermsEdgesTest {
         aByProductOfNoneNeedsNoRoom();
         newLotsAreOfToday();
         theProductThenEachByProduct();
+        theDebtIsOfAllThatWasTaken();
+        refusedNeedsAreNotTaken();
     }
 
     // "of each need CEIL(n * up / down) is TAKEN"
@@ -726,6 +748,41 @@ public final class TermsEdgesTest {
                 Check.due("making " + k + ", share " + i, x.lot(1 + i, 2), 12 / goods[k].length);
             }
         }
+    }
+
+    // "The debt T of all that was taken"
+    private static void theDebtIsOfAllThatWasTaken() {
+        Watched x = new Watched();
+        x.recipe(11);
+        for (int need = 0; need < 4; need++) {
+            x.needs(11, need, 1, 1);
+        }
+        int[] debts = {1, 20, 300, 4000};
+        for (int need = 0; need < 4; need++) {
+            x.in(need, 1, debts[need]);
+            x.in(need, 2, 10 * debts[need]);
+        }
+        Check.due("made(11, 2)", x.made(11, 2, false), 1);
+        // Of each need all of its first lot and half of its second one.
+        Check.due("lot(8, 2)", x.lot(8, 2), 6 * 4321);
+        Check.due("sum(4)", x.sum(4), 11 * 4321);
+        Check.due("made(11, 1)", x.made(11, 1, false), 1);
+        Check.due("lot(9, 2)", x.lot(9, 2), 5 * 4321);
+        Check.due("nothing is discharged", x.sum(1), 0);
+    }
+
+    private static void refusedNeedsAreNotTaken() {
+        Watched x = withRecipes();
+        x.needs(1, 0, 1, 1);
+        x.needs(2, 1, 1, 1);
+        x.needs(2, 3, 1, 1);
+        Check.due("a ring", x.needs(1, 2, 12, 1), 0);
+        Check.due("told already", x.needs(1, 0, 12, 1), 0);
+        x.in(0, 5, 5);
+        x.in(2, 50, 500);
+        Check.due("made(1, 5)", x.made(1, 5, false), 1);
+        Check.due("look(2, 0)", x.look(2, 0), 50);
+        Check.due("look(1, 1)", x.look(1, 1), 5);
     }
 
     private static void apportioning() {
@@ -872,6 +929,10 @@ public final class TermsEdgesTest {
         for (int what = 0; what <= 4; what++) {
             Check.due("sum(" + what + ")", x.sum(what), want[what]);
         }
+        x.in(0, 3, 100);
+        x.export(0, 2);
+        x.export(0, 1);
+        Check.due("sum(1) of three exports", x.sum(1), 1100);
     }
 
     // "RELEASE: TAKEN; its debt is OWED"
@@ -884,6 +945,15 @@ public final class TermsEdgesTest {
             Check.due("sum(" + what + ")", x.sum(what), want[what]);
         }
         Check.unchanged("nothing is left", x, -1, () -> x.release(0, 1));
+        x.in(0, 3, 100);
+        x.day(1);
+        x.release(0, 3);
+        x.in(1, 3, 300);
+        x.day(2);
+        x.release(1, 3);
+        Check.due("sum(2) of three releases", x.sum(2), 1400);
+        Check.due("sum(3) of three releases", x.sum(3), 4);
+        Check.due("sum(1)", x.sum(1), 0);
     }
 
     // "for each lot's part INTEREST is owed"
